@@ -171,37 +171,6 @@ public final class PromisesTest {
         due("ORDER", x.log(4, 2), 2);
     }
 
-    /** No run of 512 calls fills the log; past them only FULL's sense is looked at. */
-    private static void commitAtTheLimit() {
-        OutboxHouse x = new OutboxHouse();
-        for (int n = 0; n < 66; n++) {
-            commitFlushed(x, n, 0, 1, 2, 3, 4, 5);
-        }
-        x.begin();
-        for (int key = 0; key < 5; key++) {
-            x.write(0, key, -1);
-        }
-        due("5 more than 396", x.commit(0), FULL);
-        due("still open", x.count(0), 1);
-        due("still LOCKED", x.key(4, 2), 1);
-        due("nothing came", x.count(1), 396);
-        x.abort(0);
-        commitFlushed(x, 0, 0, 1, 2, 3);
-        due("count(1)", x.count(1), 400);
-        x.begin();
-        due("an empty one", x.commit(0), 0);
-        x.begin();
-        x.write(0, 0, 1);
-        due("one more", x.commit(0), FULL);
-        for (int n = 0; n < 10; n++) {
-            x.flow(10);
-        }
-        due("all arrive", x.count(13), 400);
-        due("whole()", x.whole(), 1);
-        due("cut()", x.cut(), 400);
-        due("PLACES go on", x.commit(0), FULL);
-    }
-
     private static void abort() {
         OutboxHouse x = new OutboxHouse();
         for (int bad : new int[] {-1, 0, 4, LOW, HIGH}) {
@@ -703,7 +672,7 @@ public final class PromisesTest {
             case 2 -> begin();
             case 3 -> write();
             case 4 -> read();
-            case 5 -> { commit(); commitAtTheLimit(); }
+            case 5 -> commit();
             case 6 -> abort();
             case 7 -> flush();
             case 8 -> crash();
