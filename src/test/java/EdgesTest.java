@@ -103,8 +103,10 @@ public final class EdgesTest {
         due("log(1, 0)", x.log(1, 0), 1);
         due("log(2, 4)", x.log(2, 4), 1);
         due("letter(0, 0, 0)", x.letter(0, 0, 0), 3);
+        due("letter(0, 0, 2)", x.letter(0, 0, 2), 2);
         due("letter(0, 0, 3)", x.letter(0, 0, 3), 20);
         due("count(0)", x.count(0), 2);
+        due("count(2)", x.count(2), 7);
         due("count(13)", x.count(13), 1);
         due("prefix(0)", x.prefix(0), 1);
         due("prefix(1)", x.prefix(1), 1);
@@ -274,6 +276,7 @@ public final class EdgesTest {
         House x = Scene.FULL_LANE.make();
         due("lose(0, 39)", x.lose(0, 39), 39);
         due("lose(0, 39)", x.lose(0, 39), BAD);
+        due("count(11)", x.count(11), 1);
         due("relay(20)", x.relay(20), 2);
         due("lose(0, 39)", x.lose(0, 39), 40);
     }
@@ -792,6 +795,27 @@ public final class EdgesTest {
         due("all", x.whole(), 1);
     }
 
+    private static void wholeOfEachCommitByItself() {
+        House x = new House();
+        x.commitFlushed(10, 0, 1);
+        x.commitFlushed(20, 2, 3);
+        x.commitFlushed(30, 4, 5);
+        x.relay(20);
+        x.deliver(2, 0, true);
+        x.deliver(0, 1, true);
+        x.save();
+        due("none, all, none", x.whole(), 1);
+        x.deliver(0, 0, true);
+        x.save();
+        due("the first of the first", x.whole(), 0);
+        x.deliver(1, 0, true);
+        x.save();
+        due("all, all, none", x.whole(), 1);
+        x.deliver(2, 1, true);
+        x.save();
+        due("the last of the last", x.whole(), 0);
+    }
+
     private static void wholeOfCommitsOfOne() {
         House x = relayed(3, 1);
         for (int i = 0; i < 3; i++) {
@@ -827,6 +851,7 @@ public final class EdgesTest {
         Check.test("promise 17, the least PLACE", EdgesTest::ackIsTheLeastPlaceMissing);
         Check.test("promise 17, after a crash of the TARGET", EdgesTest::ackAfterTheTargetsCrash);
         Check.test("promise 19, all or none", EdgesTest::wholeIsAllOrNone);
+        Check.test("promise 19, of each COMMIT", EdgesTest::wholeOfEachCommitByItself);
         Check.test("promise 19, COMMITS of one CHANGE", EdgesTest::wholeOfCommitsOfOne);
     }
 
